@@ -438,7 +438,7 @@ public final class LiveUpgrader {
         return count;
     }
 
-    /** The smallest version that pins the object; MAX_VERSIONS, above all versions, if none does. */
+    /** The smallest version that pins the object; MAX_VERSIONS, above them all, if none does. */
     private int smallestPin(int object) {
         int smallest = MAX_VERSIONS;
         for (int thread = 0; thread < MAX_THREADS; thread++) {
@@ -482,7 +482,7 @@ public final class LiveUpgrader {
         return stored.valueOf(field);
     }
 
-    /** The object with that number, or null unless it has that class and not its current version. */
+    /** The object with that number if it has that class and an old version of it, or else null. */
     private StoredObject outdatedObject(int object, ClassHistory history) {
         StoredObject stored = existingObject(object);
         if (stored == null || stored.history.type != history.type

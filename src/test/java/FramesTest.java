@@ -30,6 +30,9 @@ public final class FramesTest {
             T.due(x.call(thread, 0), LiveUpgrader.TOO_MANY);
             T.due(x.call(thread, 1), LiveUpgrader.NO_SUCH_CLASS);
             T.due(x.depth(thread), 8);
+            T.due(x.frameClass(thread, 7), 0);
+            T.due(x.frameClass(thread, 8), LiveUpgrader.NO_FRAME);
+            T.due(x.frameVersion(thread, 8), LiveUpgrader.NO_FRAME);
         }
         T.due(x.finish(1), 7);
         T.due(x.call(1, 0), 8);

@@ -9,6 +9,7 @@ public final class RollbackTest {
         passedOnVersions();
         otherClasses();
         newVersionAfterRollback();
+        allTwentyFour();
         T.end();
     }
 
@@ -183,5 +184,29 @@ public final class RollbackTest {
         T.due(x.conversions(0), 1);
         T.due(x.create(0), 1);
         T.due(x.read(0, 1, 2), 0);
+    }
+
+    private static void allTwentyFour() {
+        LiveUpgrader x = new LiveUpgrader();
+        x.addClass(1);
+        nextVersion(x, 1);
+        x.call(0, 0);
+        for (int object = 0; object < 24; object++) {
+            T.due(x.create(0), object);
+            x.write(0, object, 0, object);
+        }
+        x.finish(0);
+        nextVersion(x, 2);
+        T.due(x.convertAll(0), 24);
+        T.due(x.rollback(0), 1);
+        for (int object = 0; object < 24; object++) {
+            T.due(x.peek(object, 0), object);
+        }
+        T.due(x.rollback(0), 0);
+        for (int object = 0; object < 24; object++) {
+            T.due(x.objectVersion(object), LiveUpgrader.NO_SUCH_OBJECT);
+        }
+        x.call(0, 0);
+        T.due(x.create(0), LiveUpgrader.TOO_MANY);
     }
 }
